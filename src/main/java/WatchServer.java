@@ -735,11 +735,11 @@ public final class WatchServer {
         }
 
         boolean touches(int node, int way) {
-            return way != ENDS && from == node || way != BEGINS && to == node;
+            return (way != ENDS && from == node) || (way != BEGINS && to == node);
         }
 
         boolean isAmong(int types) {
-            return (types >>> type & 1) == 1;
+            return ((types >>> type) & 1) == 1;
         }
 
         int otherEnd(int node) {

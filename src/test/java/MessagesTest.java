@@ -14,6 +14,7 @@ public final class MessagesTest {
         againRenewsLife();
         mails();
         views();
+        nineHundred();
         CHECK.done();
     }
 
@@ -250,5 +251,31 @@ public final class MessagesTest {
         CHECK.tells(x, "no entry -1", -9, () -> x.entry(1, -1, 0));
         CHECK.tells(x, "no entry of MESSAGE 2", -9, () -> x.entry(2, 0, 0));
         CHECK.tells(x, "no entry of MESSAGE -1", -9, () -> x.entry(-1, 0, 0));
+    }
+
+    /** Each MESSAGE takes a publish(), so that 900 come only after the 512 calls that the document promises. */
+    private static void nineHundred() {
+        WatchServer x = Scene.watcher(1, 20, 100, 1);
+        for (int k = 1; k < 900; k++) {
+            Scene.changeAndTick(x, k);
+            x.publish(0, -1, 0);
+        }
+        CHECK.due("899", x.status(6), 899);
+        x.mode(0, 0, 0);
+        x.mode(0, 0, 2);
+        x.turn(0, 0, false);
+        CHECK.due("one waits", x.publish(0, -1, 0), 0);
+        CHECK.due("two wait", x.publish(0, -1, 0), 0);
+        x.turn(0, 0, true);
+        CHECK.due("the last one, with MORE", Scene.changeAndTick(x, 0), 1);
+        CHECK.due("MORE", x.message(899, 3), 1);
+        CHECK.due("a REQUEST waits still", x.sessionOf(0, 2), 1);
+        CHECK.due("one more is none: LATE", x.subscription(0, 5), 1);
+        CHECK.due("SHORT", x.subscription(0, 4), 99);
+        CHECK.due("and again none", x.tick(1), 0);
+        CHECK.due("SHORT again", x.subscription(0, 4), 98);
+        x.activate(0);
+        CHECK.refused(x, "no REQUEST", -8, () -> x.publish(0, 0, 900));
+        CHECK.due("900", x.status(6), 900);
     }
 }
