@@ -39,4 +39,18 @@ final class Scene {
         x.change(1, v);
         return x.tick(1);
     }
+
+    /** In watcher() with PERIOD 1: as many MESSAGES more; each takes a publish(), so 900 take more than 512 calls. */
+    static void publish(WatchServer x, int messages) {
+        for (int k = 1; k <= messages; k++) {
+            changeAndTick(x, k);
+            x.publish(0, -1, 0);
+        }
+    }
+
+    /** In watcher(): two REQUESTS wait, which a TICK may answer. */
+    static void waitTwice(WatchServer x) {
+        x.publish(0, -1, 0);
+        x.publish(0, -1, 0);
+    }
 }
