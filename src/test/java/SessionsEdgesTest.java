@@ -36,7 +36,7 @@ public final class SessionsEdgesTest {
         CHECK.sentence(eight, "how many SUBSCRIPTIONS are no more by that", SessionsEdgesTest::closing);
         CHECK.sentence(eight, "-1; -2; -3.", SessionsEdgesTest::closingRefused);
         String last = "Promise 27: sessionOf";
-        CHECK.sentence(last, "0 0 NEW, 1 ACTIVE, 2 CLOSED", SessionsEdgesTest::states);
+        CHECK.sentence(last, "0 0 NEW, 1 ACTIVE, 2 CLOSED", SessionsEdgesTest::statesShown);
         CHECK.sentence(last, "1 END less TIME", SessionsEdgesTest::endLessTime);
         CHECK.sentence(last, "2 REQUESTS", SessionsEdgesTest::requestsShown);
         CHECK.sentence(last, "3 SUBSCRIPTIONS", SessionsEdgesTest::subscriptionsShown);
@@ -392,6 +392,17 @@ public final class SessionsEdgesTest {
         x.activate(4);
         x.tick(1);
         CHECK.refused(x, "CLOSED at END", -2, () -> x.close(4));
+    }
+
+    private static void statesShown() {
+        WatchServer x = Scene.clients();
+        x.session(1);
+        x.tick(1);
+        int[] due = {1, 1, 2, 0, 2};
+        for (int k = 0; k < due.length; k++) {
+            int s = k;
+            CHECK.tells(x, "SESSION " + s, due[s], () -> x.sessionOf(s, 0));
+        }
     }
 
     private static void endLessTime() {
