@@ -852,8 +852,9 @@ public final class WatchServer {
             int filled = 0;
             for (int k = 0; k < items.size() && filled < count; k++) {
                 Item each = items.get(k);
-                int share = Math.min(each.queue.entries.size(), count - filled);
-                for (int j = 0; each.mode == Item.REPORTING && j < share; j++) {
+                int waiting = each.mode == Item.REPORTING ? each.queue.entries.size() : 0;
+                int share = Math.min(waiting, count - filled);
+                for (int j = 0; j < share; j++) {
                     taken[filled] = each.queue.entries.remove(0);
                     filled++;
                 }
